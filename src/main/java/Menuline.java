@@ -13,7 +13,7 @@ public final class Menuline {
     private static final int DAYS = 84, WEEKDAYS = 7, DAY_TICKS = 240, LAST_TICK = 20000;
     private static final int RING_TICKS = 6, RING_AGAIN_TICKS = 30, RINGS = 2;
     private static final int MOST_NUMBER = 999999, MOST_DIGITS = 6;
-    private static final int LEAVE = 1, LAST_DIGIT = 9, STAR = 10, HASH = 11;
+    private static final int LEAVE = 1, STAR = 10, HASH = 11;
 
     /** In place of a node to go on to: there is no way on. NONE cannot say so, as it leads to the end. */
     private static final int NOWHERE = -2;
@@ -547,7 +547,8 @@ public final class Menuline {
                     close(line, ENDED);
                     return NOWHERE;
                 }
-                line.putDown(now);
+                line.node = NONE;
+                line.rings = 0;
                 turn(line, AWAY);
                 return NOWHERE;
             default:
@@ -728,10 +729,11 @@ public final class Menuline {
     private int nextTaker() {
         int wanted = skillsWanted();
         int taker = NONE;
-        int since = LAST_TICK + 1;
+        int since = 0;
         for (int agent = 0; agent < AGENTS; agent++) {
             Desk desk = desks[agent];
-            if (desk.state == READY && (desk.skills & wanted) != 0 && desk.readySince < since) {
+            boolean canTake = desk.state == READY && (desk.skills & wanted) != 0;
+            if (canTake && (taker == NONE || desk.readySince < since)) {
                 taker = agent;
                 since = desk.readySince;
             }
@@ -922,12 +924,6 @@ public final class Menuline {
             skill = node.skill;
             priority = node.priority;
             since = now;
-        }
-
-        void putDown(int now) {
-            node = NONE;
-            rings = 0;
-            notAhead = now;
         }
 
         void forgetTheWay() {

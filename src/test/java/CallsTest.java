@@ -183,6 +183,7 @@ public final class CallsTest {
         due.is("it has a place", x.placeOf(0), 0);
         due.is("by replay", x.placeByReplay(0), 0);
         due.is("the agent is READY at once", x.agent(0), Menuline.READY);
+        due.is("and has no call", x.callOf(0), NONE);
         x.signOn(1, 1);
         due.is("another agent cannot take it", x.callOf(1), NONE);
         x.pass(29);
@@ -198,6 +199,19 @@ public final class CallsTest {
         due.is("nobody waits", x.waiting(0), 0);
         due.is("READY at once", x.agent(0), Menuline.READY);
         picksUpOnceInTwo();
+        takesAnotherOneMeanwhile();
+    }
+
+    private void takesAnotherOneMeanwhile() {
+        Menuline x = withCallback();
+        x.press(x.call(0), 1);
+        x.signOn(0, 1);
+        x.pass(6);
+        x.call(0);
+        due.is("the agent talks with another one", x.callOf(0), 1);
+        due.is("the one that rang is taken back", x.hang(0), Menuline.AWAY);
+        due.is("that leaves the agent", x.agent(0), Menuline.BUSY);
+        due.is("with the other one", x.callOf(0), 1);
     }
 
     /** How often it was not picked up counts from the CALLBACK on, and so does the time ahead of which it can't be taken. */
@@ -369,28 +383,36 @@ public final class CallsTest {
         places(x, "one is left", 0, NONE, NONE, NONE);
     }
 
-    /** More beginnings and ends of waiting than any row is long from the start. */
+    /** Many more beginnings and ends of waiting than there are calls. */
     private void placesBehindManyWaits() {
         Menuline x = new Menuline();
         x.queue(0, 0, 0, 1, 30, 1);
-        x.queue(1, 0, 2, 1, 30, 0);
-        x.queue(2, 0, 1, 500, 30, 3);
+        x.queue(1, 1, 2, 1, 30, 0);
+        x.queue(2, 1, 1, 500, 30, 3);
         x.callback(3);
         x.leaving(2, 3);
-        for (int i = 0; i < 25; i++) {
-            x.call(i % 2);
+        x.queue(4, 0, 4, 2, 30, 5);
+        x.queue(5, 2, 1, 1, 30, 4);
+        int[] nodes = {0, 2, 1, 4, 5, 2};
+        for (int call = 0; call < 42; call++) {
+            x.call(nodes[call % 6]);
         }
-        x.call(2);
-        x.press(x.call(2), 1);
+        x.press(1, 1);
+        x.press(11, 1);
         for (int round = 0; round < 60; round++) {
             x.pass(7);
-            for (int call = 0; call < 27; call++) {
+            for (int call = 0; call < 42; call++) {
                 due.is("round " + round + ": " + call, x.placeByReplay(call), x.placeOf(call));
             }
+            if (round % 2 == 1) {
+                x.hang(round / 2);
+            }
         }
-        due.is("who waits for longest", x.placeOf(25), 0);
-        due.is("and by replay", x.placeByReplay(26), 1);
-        due.is("ways", x.ways(0, 1), 13 * 210 + 12 * 210);
+        int[] longest = {31, 35, 37, 41};
+        for (int place = 0; place < 4; place++) {
+            due.is("who waits for longest", x.placeOf(longest[place]), place);
+            due.is("and by replay", x.placeByReplay(longest[place]), place);
+        }
     }
 
     private void ways() {

@@ -7,6 +7,7 @@ public final class FlowTest {
         FlowTest test = new FlowTest();
         test.whatSayIsTold();
         test.keysThatBeginOneAnother();
+        test.keysOfThreeDigits();
         test.rowsThatAreDone();
         test.misses();
         test.missesCountFromComing();
@@ -88,6 +89,36 @@ public final class FlowTest {
         call = x.call(0);
         Due.pressAll(x, call, "67#");
         due.is("67 with #", x.nodeOf(call), 5);
+    }
+
+    private void keysOfThreeDigits() {
+        Menuline x = new Menuline();
+        x.menu(0);
+        x.key(0, 1089, 1);
+        x.key(0, 1999, 2);
+        int call = x.call(0);
+        due.is("0 begins 089", x.press(call, 0), 0);
+        due.is("08 begins 089", x.press(call, 8), 0);
+        due.is("089", x.press(call, 9), NONE);
+        due.is("its way", x.ways(0, 1), 1);
+        call = x.call(0);
+        x.press(call, 1);
+        due.is("1 begins nothing, and that is a miss", x.press(call, 1), NONE);
+        due.is("two of them", x.ways(0, NONE), 1);
+        Due.pressAll(x, x.call(0), "0999");
+        due.is("09 is a miss, behind it 99 waits", x.nodeOf(2), 0);
+        due.is("999", x.press(2, 9), NONE);
+        due.is("its way", x.ways(0, 2), 1);
+        x.menu(0);
+        x.key(0, 10, 3);
+        x.press(x.call(0), 0);
+        due.is("089 is no key any more", x.ways(0, 3), 1);
+        x.say(0, 60, NONE);
+        x.input(0, 1, 2, NONE);
+        x.menu(0);
+        due.is("the keys are told anew", x.key(0, 1089, 4), 1);
+        Due.pressAll(x, x.call(0), "089");
+        due.is("089 is one again", x.ways(0, 4), 1);
     }
 
     private void rowsThatAreDone() {
