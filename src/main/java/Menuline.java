@@ -786,8 +786,8 @@ public final class Menuline {
         }
         Desk desk = desks[line.agent];
         line.agent = NONE;
-        if (line.state == TALKING) {
-            desk.endTalk(now);
+        if (line.state == TALKING && desk.wrapTicks > 0) {
+            desk.wrapUp(now);
         } else {
             desk.makeReady(now);
         }
@@ -908,7 +908,7 @@ public final class Menuline {
         }
 
         boolean waitsFor(int wanted) {
-            return isInLine() && skill == wanted;
+            return skill == wanted && (state == WAITING || state == AWAY);
         }
 
         boolean canBeTaken(int now) {
@@ -985,11 +985,7 @@ public final class Menuline {
             readySince = now;
         }
 
-        void endTalk(int now) {
-            if (wrapTicks == 0) {
-                makeReady(now);
-                return;
-            }
+        void wrapUp(int now) {
             state = WRAPPING;
             call = NONE;
             wrappedAt = now + wrapTicks;
@@ -1010,7 +1006,7 @@ public final class Menuline {
         }
 
         static int weekdayAt(int time) {
-            return Math.floorMod(time / DAY_TICKS, WEEKDAYS);
+            return time / DAY_TICKS % WEEKDAYS;
         }
 
         boolean isOpenAt(int time) {

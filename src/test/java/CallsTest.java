@@ -393,8 +393,10 @@ public final class CallsTest {
         x.leaving(2, 3);
         x.queue(4, 0, 4, 2, 30, 5);
         x.queue(5, 2, 1, 1, 30, 4);
+        x.say(6, 3, 2);
         int[] nodes = {0, 2, 1, 4, 5, 2};
-        for (int call = 0; call < 42; call++) {
+        x.call(6);
+        for (int call = 1; call < 42; call++) {
             x.call(nodes[call % 6]);
         }
         x.press(1, 1);
@@ -405,11 +407,11 @@ public final class CallsTest {
                 due.is("round " + round + ": " + call, x.placeByReplay(call), x.placeOf(call));
             }
             if (round % 2 == 1) {
-                x.hang(round / 2);
+                x.hang(1 + round / 2);
             }
         }
-        int[] longest = {31, 35, 37, 41};
-        for (int place = 0; place < 4; place++) {
+        int[] longest = {31, 35, 37, 41, 0};
+        for (int place = 0; place < 5; place++) {
             due.is("who waits for longest", x.placeOf(longest[place]), place);
             due.is("and by replay", x.placeByReplay(longest[place]), place);
         }

@@ -94,8 +94,8 @@ public final class FlowTest {
     private void keysOfThreeDigits() {
         Menuline x = new Menuline();
         x.menu(0);
-        x.key(0, 1089, 1);
         x.key(0, 1999, 2);
+        x.key(0, 1089, 1);
         int call = x.call(0);
         due.is("0 begins 089", x.press(call, 0), 0);
         due.is("08 begins 089", x.press(call, 8), 0);
