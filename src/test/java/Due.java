@@ -1,12 +1,20 @@
-import java.util.Arrays;
+import java.util.function.Supplier;
 
-/** What the tests share: answers that are due, calls that are refused, and all that is so of an object. */
+/** What the tests share: answers that are due, calls that are taken or refused, and short ways to say them. */
 final class Due {
     static final Class<? extends RuntimeException> INDEX = IndexOutOfBoundsException.class;
     static final Class<? extends RuntimeException> ARGUMENT = IllegalArgumentException.class;
     static final Class<? extends RuntimeException> STATE = IllegalStateException.class;
 
+    /** A call of an object with a number that is tried out. */
+    interface Try {
+        void with(Menuline x, int number);
+    }
+
     private final String name;
+    private Document document;
+    private String sentence = "";
+    private int checksOfSentence = 1;
     private int checks;
     private int wrong;
 
@@ -14,8 +22,37 @@ final class Due {
         this.name = name;
     }
 
+    /** What is checked from now on holds the class against these words of the document. */
+    void sentence(int promise, String words) {
+        endSentence();
+        if (document == null) {
+            document = Document.read();
+        }
+        sentence = Document.where(promise) + ", \"" + words + "\": ";
+        checksOfSentence = 0;
+        if (!document.name(promise, words)) {
+            complain("the document does not say so");
+        }
+    }
+
+    private void endSentence() {
+        if (checksOfSentence == 0) {
+            complain("nothing was checked");
+        }
+    }
+
+    /** Complains of every sentence of the document that was not named. */
+    void allSentencesAreNamed() {
+        endSentence();
+        sentence = "";
+        is("how many sentences there are", document.size() > 100, true);
+        for (String left : document.unnamed()) {
+            is("the sentence without a test: " + left, 0, 1);
+        }
+    }
+
     void is(String what, long got, long want) {
-        checks++;
+        count();
         if (got != want) {
             complain(what + " answered " + got + ", due is " + want);
         }
@@ -25,28 +62,68 @@ final class Due {
         is(what, got ? 1 : 0, want ? 1 : 0);
     }
 
-    /** The call throws just this, and changes nothing that can be seen. */
+    void same(String what, String got, String want) {
+        count();
+        if (!got.equals(want)) {
+            complain(what + " answered " + got + ", due is " + want);
+        }
+    }
+
+    /** The call throws nothing. */
+    void taken(String what, Runnable call) {
+        count();
+        String thrown = thrownBy(call);
+        if (!thrown.isEmpty()) {
+            complain(what + " threw " + thrown + ", due is nothing");
+        }
+    }
+
+    /** The call throws just this, and changes nothing, neither what can be seen nor what is inside. */
     void refused(String what, Menuline x, Class<? extends RuntimeException> want, Runnable call) {
-        checks++;
-        int[] before = allOf(x);
-        Class<?> got = null;
-        try {
-            call.run();
-        } catch (RuntimeException e) {
-            got = e.getClass();
+        count();
+        String before = Inside.of(x);
+        String thrown = thrownBy(call);
+        if (!thrown.equals(want.getName())) {
+            complain(what + " threw " + (thrown.isEmpty() ? "nothing" : thrown) + ", due is " + want.getName());
         }
-        if (got != want) {
-            complain(what + " threw " + (got == null ? "nothing" : got.getName()) + ", due is " + want.getName());
-        }
-        if (!Arrays.equals(before, allOf(x))) {
+        if (!before.equals(Inside.of(x))) {
             complain(what + " changed something");
         }
+    }
+
+    private static String thrownBy(Runnable call) {
+        try {
+            call.run();
+            return "";
+        } catch (RuntimeException e) {
+            return e.getClass().getName();
+        }
+    }
+
+    /** The least and the most are taken, each by a scene of its own; what is beyond them is refused. */
+    void range(String what, Supplier<Menuline> scene, int least, int most, Class<? extends RuntimeException> refusal,
+            Try call) {
+        for (int number : new int[] {least, most}) {
+            taken(what + " " + number, () -> call.with(scene.get(), number));
+        }
+        int[] beyond = {least - 1, most + 1, -most - 1, 1 << 16, Integer.MIN_VALUE, Integer.MAX_VALUE};
+        for (int number : beyond) {
+            if (number < least || number > most) {
+                Menuline x = scene.get();
+                refused(what + " " + number, x, refusal, () -> call.with(x, number));
+            }
+        }
+    }
+
+    private void count() {
+        checks++;
+        checksOfSentence++;
     }
 
     private void complain(String text) {
         wrong++;
         if (wrong <= 30) {
-            System.out.println(name + ": " + text);
+            System.out.println(name + ": " + sentence + text);
         }
     }
 
@@ -56,34 +133,6 @@ final class Due {
         if (wrong != 0) {
             System.exit(1);
         }
-    }
-
-    /** All that an object tells of itself. */
-    static int[] allOf(Menuline x) {
-        int[] all = new int[2000];
-        int size = 0;
-        all[size++] = x.calls();
-        all[size++] = x.isOpen() ? 1 : 0;
-        for (int call = 0; call < x.calls(); call++) {
-            all[size++] = x.state(call);
-            all[size++] = x.end(call);
-            all[size++] = x.nodeOf(call);
-            all[size++] = x.numberOf(call);
-            all[size++] = x.placeOf(call);
-            all[size++] = x.placeByReplay(call);
-        }
-        for (int skill = 0; skill < 6; skill++) {
-            all[size++] = x.waiting(skill);
-            all[size++] = x.agent(skill);
-            all[size++] = x.callOf(skill);
-        }
-        for (int from = 0; from < 30; from++) {
-            all[size++] = x.begun(from);
-            for (int to = -1; to < 30; to++) {
-                all[size++] = x.ways(from, to);
-            }
-        }
-        return Arrays.copyOf(all, size);
     }
 
     /** A way of calls from a node on through always-true branches: from, from + 1, ..., last, then to `then`. */
