@@ -7,8 +7,8 @@ import java.util.Random;
 
 /** Long runs of calls by chance (with fixed seeds), each answer beside that of the Oracle. */
 public final class StormTest {
-    private static final int RUNS = 6000;
-    private static final int CALLS_OF_A_RUN = 512;
+    static final int RUNS = 6000;
+    static final int CALLS_OF_A_RUN = 512;
     private static final int[] ODD = {-1, -2, 6, 7, 10, 12, 30, 60, 61, 84, 100, 101, 240, 241, 2000,
         Integer.MAX_VALUE, Integer.MIN_VALUE};
 
