@@ -132,6 +132,8 @@ public final class AgentsTest {
             due.refused("wrap " + agent, x, Due.INDEX, () -> x.wrap(agent, 31));
             due.refused("finish " + agent, x, Due.INDEX, () -> x.finish(agent));
             due.refused("transfer " + agent, x, Due.INDEX, () -> x.transfer(agent, 0));
+            due.refused("agent " + agent, x, Due.INDEX, () -> x.agent(agent));
+            due.refused("callOf " + agent, x, Due.INDEX, () -> x.callOf(agent));
         }
         for (int skills : new int[] {0, 64, -1, Integer.MIN_VALUE, Integer.MAX_VALUE}) {
             due.refused("skills " + skills, x, Due.ARGUMENT, () -> x.signOn(2, skills));

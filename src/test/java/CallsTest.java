@@ -59,6 +59,18 @@ public final class CallsTest {
         due.refused("a 61st call to no node", x, Due.INDEX, () -> x.call(30));
         due.is("begun", x.begun(0), 2);
         due.is("the last", x.end(59), Menuline.ENDED);
+        Menuline y = withCallback();
+        for (int call = 0; call < 60; call++) {
+            y.call(0);
+            // Behind the cap of 30 they come to the callback by themselves.
+            if (call < 30) {
+                y.press(call, 1);
+            }
+        }
+        for (int call = 0; call < 60; call++) {
+            due.is("the place of " + call, y.placeOf(call), call);
+            due.is("its place by replay", y.placeByReplay(call), call);
+        }
     }
 
     private void pressRefused() {
@@ -95,6 +107,11 @@ public final class CallsTest {
         due.is("a digit to a queue where it is taken at once", x.press(x.call(0), 0), NONE);
         due.is("it talks", x.state(2), Menuline.TALKING);
         due.is("with", x.callOf(5), 2);
+        Menuline y = new Menuline();
+        y.queue(0, 0, 0, 500, 30, 1);
+        y.leaving(0, NONE);
+        due.is("a digit to the end", y.press(y.call(0), 1), NONE);
+        due.is("it is over", y.end(0), Menuline.ENDED);
     }
 
     private void hang() {
@@ -259,16 +276,15 @@ public final class CallsTest {
         for (int skill : new int[] {-1, 6, 32, Integer.MIN_VALUE, Integer.MAX_VALUE}) {
             due.refused("waiting " + skill, x, Due.ARGUMENT, () -> x.waiting(skill));
         }
+        for (int skill = 0; skill <= 5; skill++) {
+            due.is("waiting " + skill, x.waiting(skill), 0);
+        }
         for (int node : new int[] {-1, 30, Integer.MIN_VALUE, Integer.MAX_VALUE}) {
             due.refused("ways from " + node, x, Due.INDEX, () -> x.ways(node, 0));
             due.refused("begun " + node, x, Due.INDEX, () -> x.begun(node));
         }
         for (int node : new int[] {-2, 30, Integer.MIN_VALUE, Integer.MAX_VALUE}) {
             due.refused("ways to " + node, x, Due.INDEX, () -> x.ways(0, node));
-        }
-        for (int agent : new int[] {-1, 6, Integer.MIN_VALUE, Integer.MAX_VALUE}) {
-            due.refused("agent " + agent, x, Due.INDEX, () -> x.agent(agent));
-            due.refused("callOf " + agent, x, Due.INDEX, () -> x.callOf(agent));
         }
     }
 

@@ -602,6 +602,7 @@ public final class FlowTest {
         due.is("a claim of a full queue", x.state(3), Menuline.AWAY);
         due.is("since now", x.placeOf(3), 3);
         x.call(5);
+        due.is("a claim with its priority", x.placeOf(4), 0);
         x.pass(10);
         due.is("a later claim takes the place", x.state(4), Menuline.AWAY);
         due.is("of the time and the priority", x.placeOf(4), 4);
